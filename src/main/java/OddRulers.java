@@ -994,7 +994,8 @@ public final class OddRulers {
         }
 
         private boolean startsGap(int t) {
-            return !isLaid(t) && (t == 1 || isLaid(t - 1));
+            // There is a length before the first one of the range: 0, which always can be laid.
+            return !isLaid(t) && isLaid(t - 1);
         }
 
         int countGaps(int range) {

@@ -80,6 +80,7 @@ final class ActionTest {
         c.due("turn(0) again", x.turn(0), 1);
         c.due("ruler 0 again", Picture.row(x, 0), "|||...|..|");
         c.due("turn(1)", x.turn(1), 39);
+        c.due("ruler 1", Picture.row(x, 1), "|" + ".".repeat(38) + "||");
         c.due("turn(2)", x.turn(2), 5);
         c.due("ruler 2", Picture.row(x, 2), "|....|");
         c.refused(x, "turn(3)", Checks.INDEX, () -> x.turn(3));

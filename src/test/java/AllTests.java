@@ -9,7 +9,7 @@ import java.util.TreeSet;
 /** Runs every static method of the test classes that takes Checks. */
 public final class AllTests {
     private static final Class<?>[] TESTS = {
-        FaceTest.class, TextTest.class, LookTest.class, ActionTest.class, LayingTest.class,
+        FaceTest.class, LanguageTest.class, TextTest.class, LookTest.class, ActionTest.class, LayingTest.class,
         ScriptTest.class, SlotTest.class, RoomTest.class, RandomTest.class,
     };
 

@@ -38,7 +38,7 @@ final class LayingTest {
         }
     }
 
-    static void promise17_notBeyondTheFarthest(Checks c) {
+    static void promise17_allLengths(Checks c) {
         OddRulers x = Make.rulers(Make.row(40), Make.row(27));
         for (int t = 0; t <= 200; t++) {
             int want = new Model.Lengths(new int[] {27, 40}).fewest(t);
@@ -56,6 +56,9 @@ final class LayingTest {
         row(c, x, 17, new int[][] {{0, 1, 1, 9}, {0, 4, 1, 17}});
         row(c, x, 40, new int[][] {{0, 0, 1, 4}, {0, 2, 1, 16}, {0, 2, 1, 28}, {0, 2, 1, 40}});
         row(c, x, 0, new int[0][]);
+        row(c, Make.rulers(Make.row(3, 1, 2)), 1, new int[][] {{0, 0, 1, 1}});
+        row(c, Make.rulers(Make.row(40)), 40, new int[][] {{0, 0, 1, 40}});
+        row(c, Make.rulers(Make.row(5), Make.row(40, 39)), 1, new int[][] {{1, 2, 1, 1}});
     }
 
     static void promise18_lowestRulerThenSpan(Checks c) {
@@ -65,6 +68,19 @@ final class LayingTest {
         row(c, y, 5, new int[][] {{1, 0, 1, 5}});
         // 25 is 30 - 5 and 5 - 30 is not; the first laying has to be of ruler 0.
         row(c, y, 25, new int[][] {{0, 0, 1, 30}, {1, 0, 0, 25}});
+    }
+
+    static void promise18_eachEndsAt0To200(Checks c) {
+        OddRulers x = Make.rulers(Make.row(40), Make.row(39));
+        int[] ends = {40, 80, 120, 160, 200, 161, 122, 162, 123, 163, 124, 85, 46, 7};
+        for (int k = 0; k < ends.length; k++) {
+            c.due("never beyond 200: " + k, x.laying(7, k, 3), ends[k]);
+        }
+        OddRulers y = Make.rulers(Make.row(39), Make.row(40));
+        int[] others = {40, 1, 41, 2, 42, 3, 43, 4, 44, 5, 45, 6, 46, 7};
+        for (int k = 0; k < others.length; k++) {
+            c.due("never below 0: " + k, y.laying(7, k, 3), others[k]);
+        }
     }
 
     static void promise18_noLaying(Checks c) {
@@ -209,6 +225,10 @@ final class LayingTest {
         twin(c, x, 0, 2, false, OddRulers.NONE);
         x.mark(3, 34, true);
         twin(c, x, 2, 3, true, OddRulers.NONE);
+        OddRulers y = Make.rulers(Make.row(40, 39), Make.row(40, 1, 30), Make.row(40, 1, 31));
+        twin(c, y, 0, 1, false, OddRulers.NONE);
+        twin(c, y, 1, 0, false, OddRulers.NONE);
+        twin(c, y, 1, 2, false, OddRulers.NONE);
     }
 
     private static void twin(Checks c, OddRulers x, int r, int other, boolean turned, int want) {
@@ -230,5 +250,16 @@ final class LayingTest {
         c.due("40 by 2 and 1", y.layings(), 20);
         y.set(1, 150);
         c.due("150 by 2 and 1", y.layings(), 75);
+        OddRulers z = Make.rulers(Make.row(40), Make.row(39));
+        z.set(1, 10);
+        c.due("10 takes most", z.layings(), 20);
+        OddRulers w = Make.rulers(Make.row(12, 2, 4, 6, 9));
+        w.set(1, 10);
+        c.due("1 takes most", w.layings(), 2);
+        OddRulers v = Make.rulers(Make.row(9, 2, 4));
+        v.set(1, 149);
+        c.due("up to 149", v.layings(), 17);
+        v.set(1, 150);
+        c.due("150 takes most", v.layings(), 18);
     }
 }

@@ -32,6 +32,8 @@ final class LookTest {
         c.due("40 and 24", Make.rulers(Make.row(40), Make.row(24)).about(4), 8);
         c.due("40", Make.rulers(Make.row(40)).about(4), 40);
         c.due("9 with a mark at 6", Make.rulers(Make.row(9, 6)).about(4), 3);
+        c.due("4 and 6", Make.rulers(Make.row(4), Make.row(6)).about(4), 2);
+        c.due("2 with a mark at 1", Make.rulers(Make.row(2, 1)).about(4), 1);
         c.due("6, 10 and 15", Make.rulers(Make.row(6), Make.row(10), Make.row(15)).about(4), 1);
     }
 
@@ -154,6 +156,16 @@ final class LookTest {
         c.refused(x, "gap(-1, 0)", Checks.INDEX, () -> x.gap(-1, 0));
         c.refused(x, "gap(6, 2)", Checks.ARGUMENT, () -> x.gap(6, 2));
         c.refused(x, "gap(0, -1)", Checks.ARGUMENT, () -> x.gap(0, -1));
+        x.set(1, 11);
+        c.due("the range cuts it", x.gap(4, 1), 1);
+        c.due("the last begins at the end of the range", x.gap(4, 0), 11);
+        c.throwing("no more", Checks.INDEX, () -> x.gap(5, 0));
+        OddRulers z = Make.rulers(Make.row(31), Make.row(25));
+        z.set(0, 5);
+        z.set(1, 150);
+        // 149 is 4 times 31 and 25, but 150 is 6 times 25.
+        c.due("a gap at 150", z.gap(z.about(6) - 1, 0), 150);
+        c.due("of one", z.gap(z.about(6) - 1, 1), 1);
         OddRulers y = new OddRulers();
         y.set(1, 150);
         c.due("all of the range", y.gap(0, 1), 150);

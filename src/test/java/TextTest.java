@@ -70,6 +70,11 @@ final class TextTest {
         due(c, "Krx", 2);
         due(c, "Kr:0", 2);
         due(c, "Kr/0", 2);
+        due(c, "Kr0:", 3);
+        due(c, "Kr1/", 3);
+        due(c, "Km1/9", 3);
+        due(c, "Ks:", 2);
+        due(c, "Kg1/9", 3);
         due(c, "Kr020", 4);
         due(c, "Km", 2);
         due(c, "Km3", 3);
