@@ -251,7 +251,7 @@ public final class OddRulers {
         for (int p = 0; p <= GREATEST_SIZE; p++) {
             if (present.hasPlace(r, p) && !present.hasMark(r, p)) {
                 long spread = others | spreadOf(present.row(r) | 1L << p);
-                int count = laidBy(spread, present);
+                int count = laidBy(spread);
                 if (count > most) {
                     most = count;
                     best = p;
@@ -269,7 +269,7 @@ public final class OddRulers {
         for (int p = 1; p < GREATEST_SIZE; p++) {
             if (present.hasMark(r, p) && !present.isEnd(r, p)) {
                 long spread = others | spreadOf(present.row(r) & ~(1L << p));
-                if (laidBy(spread, present) == now) {
+                if (laidBy(spread) == now) {
                     count++;
                 }
             }
@@ -314,9 +314,9 @@ public final class OddRulers {
         return reach.countLaid(state.range());
     }
 
-    private int laidBy(long spread, State state) {
-        reach.layAtMost(state.allowed(), spread);
-        return reach.countLaid(state.range());
+    private int laidBy(long spread) {
+        reach.layAtMost(present.allowed(), spread);
+        return reach.countLaid(present.range());
     }
 
     private int gaps(State state) {
