@@ -8,9 +8,10 @@ import java.util.TreeSet;
 
 /** Runs every static method of the test classes that takes Checks. */
 public final class AllTests {
-    private static final Class<?>[] TESTS = {
-        FaceTest.class, LanguageTest.class, TextTest.class, LookTest.class, ActionTest.class, LayingTest.class,
-        ScriptTest.class, SlotTest.class, RoomTest.class, RandomTest.class,
+    static final Class<?>[] TESTS = {
+        FaceTest.class, LanguageTest.class, DocumentTest.class, TextTest.class, LookTest.class, ActionTest.class,
+        LayingTest.class, MarkTest.class, ScriptTest.class, SimulateTest.class, SlotTest.class, RoomTest.class,
+        RandomTest.class,
     };
 
     private static int passed;

@@ -1,10 +1,15 @@
-import java.util.concurrent.Callable;
+import java.util.function.Supplier;
 
 /** Compares answers with those that are due, and counts the wrong ones. */
 final class Checks {
-    static final String INDEX = "IndexOutOfBoundsException";
-    static final String ARGUMENT = "IllegalArgumentException";
-    static final String STATE = "IllegalStateException";
+    static final String INDEX = "throws.IndexOutOfBoundsException";
+    static final String ARGUMENT = "throws.IllegalArgumentException";
+    static final String STATE = "throws.IllegalStateException";
+
+    /** A call of the class's face. */
+    interface Call {
+        int on(OddRulers x);
+    }
 
     private int made;
     private int wrong;
@@ -25,21 +30,30 @@ final class Checks {
         }
     }
 
-    void throwing(String call, String exception, Callable<Integer> action) {
-        due(call, answer(action), "throws." + exception);
+    /** The call throws this exception, and behind it everything is as it is without the call. */
+    void refused(Supplier<OddRulers> make, String name, String exception, Call call) {
+        due(name, answer(make.get(), call), exception);
+        unchanged(make, name, call);
     }
 
-    /** A refused call has to leave everything as it was. */
-    void refused(OddRulers x, String call, String exception, Callable<Integer> action) {
-        String before = Picture.of(x);
-        throwing(call, exception, action);
-        due(call + " changes nothing", Picture.of(x), before);
+    /** Behind the call, whatever it answers, everything is as it is without it. */
+    void unchanged(Supplier<OddRulers> make, String name, Call call) {
+        String behind = Picture.whole(() -> {
+            OddRulers x = make.get();
+            answer(x, call);
+            return x;
+        });
+        due(name + " changes nothing", behind, Picture.whole(make));
     }
 
-    static String answer(Callable<Integer> action) {
+    static String answer(OddRulers x, Call call) {
+        return answer(() -> call.on(x));
+    }
+
+    static String answer(Supplier<Integer> call) {
         try {
-            return String.valueOf(action.call());
-        } catch (Exception e) {
+            return String.valueOf(call.get());
+        } catch (RuntimeException e) {
             return "throws." + e.getClass().getSimpleName();
         }
     }

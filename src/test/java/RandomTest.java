@@ -4,10 +4,13 @@ import java.util.Random;
 final class RandomTest {
     private static final int[] ODD_NUMBERS = {-1, -2, Integer.MIN_VALUE, Integer.MAX_VALUE, 41, 64, 201, 256, 1000};
 
+    private static final int MOST_CALLS = 512;
+
     private final Random random;
     private final OddRulers x = new OddRulers();
     private final Model model = new Model();
     private final Checks checks;
+    private int calls;
 
     private RandomTest(long seed, Checks checks) {
         this.random = new Random(seed);
@@ -15,10 +18,11 @@ final class RandomTest {
     }
 
     static void random_runsAsTheModel(Checks c) {
-        for (int seed = 1; seed <= 120 && c.wrong() == 0; seed++) {
+        for (int seed = 1; seed <= 200 && c.wrong() == 0; seed++) {
             RandomTest run = new RandomTest(seed, c);
             int actions = 1 + seed % 4;
-            for (int i = 0; i < 500; i++) {
+            // The last call may be a text of up to 120 characters.
+            for (int i = 0; run.calls <= MOST_CALLS - 130; i++) {
                 run.call(seed + "." + i, actions);
             }
         }
@@ -85,11 +89,11 @@ final class RandomTest {
     }
 
     private int ruler() {
-        return below(Math.max(1, x.about(0)));
+        return below(Math.max(1, model.about(0)));
     }
 
     private int place(int r) {
-        return below(r >= 0 && r < x.about(0) ? x.rulerOf(r, 0) + 1 : 41);
+        return below(r >= 0 && r < model.about(0) ? model.rulerOf(r, 0) + 1 : 41);
     }
 
     private void act(String at) {
@@ -258,6 +262,7 @@ final class RandomTest {
     }
 
     private void due(String call, Object got, Object want) {
+        calls++;
         checks.due(call, got, want);
     }
 }
