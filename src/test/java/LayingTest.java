@@ -118,8 +118,8 @@ final class LayingTest {
         rows(c, Make.rulers(Make.row(5), Make.row(5)), 5, new int[][] {{0, 0, 1, 5}});
         rows(c, Make.rulers(Make.row(10, 5), Make.row(5)), 5, new int[][] {{0, 0, 1, 5}});
         rows(c, Make.rulers(Make.row(30), Make.row(10, 5), Make.row(5)), 5, new int[][] {{1, 0, 1, 5}});
-        rows(c, Make.rulers(Make.row(3), Make.row(40), Make.row(39), Make.row(1 + 1, 1)), 1, new int[][] {{3, 0, 1, 1}});
-        // 30 and then 5 back, or 5 and then 20, in any order: ruler 0 is first.
+        rows(c, Make.rulers(Make.row(3), Make.row(40), Make.row(39), Make.row(2, 1)), 1, new int[][] {{3, 0, 1, 1}});
+        // 30 and then 5 back, or 5 and then 20, or 20 and then 5: ruler 0 is first.
         rows(c, Make.rulers(Make.row(20), Make.row(30), Make.row(5)), 25, new int[][] {{0, 0, 1, 20}, {2, 0, 1, 25}});
     }
 
@@ -127,7 +127,7 @@ final class LayingTest {
     static void promise18_lowestSpan(Checks c) {
         rows(c, Make.rulers(Make.row(3, 1, 2)), 1, new int[][] {{0, 0, 1, 1}});
         rows(c, Make.rulers(Make.row(5), Make.row(40, 39)), 1, new int[][] {{1, 2, 1, 1}});
-        // The spans 0 to 5 and 5 to 10 are alike, and so are 3 of 10 below and above.
+        // The spans 0 to 5 and 5 to 10 are alike; of these the lower one is told.
         rows(c, Make.rulers(Make.row(10, 5)), 15, new int[][] {{0, 0, 1, 5}, {0, 1, 1, 15}});
         rows(c, Make.rulers(Make.row(9, 2, 7)), 4, new int[][] {{0, 0, 1, 2}, {0, 0, 1, 4}});
         rows(c, Make.rulers(Make.row(9, 2, 7)), 16, new int[][] {{0, 1, 1, 7}, {0, 2, 1, 16}});
