@@ -9,9 +9,9 @@ import java.util.TreeSet;
 /** Runs every static method of the test classes that takes Checks. */
 public final class AllTests {
     static final Class<?>[] TESTS = {
-        FaceTest.class, LanguageTest.class, DocumentTest.class, TextTest.class, LookTest.class, ActionTest.class,
-        LayingTest.class, MarkTest.class, ScriptTest.class, SimulateTest.class, SlotTest.class, RoomTest.class,
-        RandomTest.class,
+        FaceTest.class, LanguageTest.class, DocumentTest.class, ReadmeTest.class, TextTest.class, LookTest.class,
+        ActionTest.class, LayingTest.class, MarkTest.class, ScriptTest.class, SimulateTest.class, SlotTest.class,
+        RoomTest.class, RandomTest.class,
     };
 
     private static int passed;
