@@ -1,9 +1,16 @@
 import java.io.IOException;
+import java.lang.reflect.Field;
+import java.lang.reflect.Method;
+import java.lang.reflect.Modifier;
 import java.nio.file.Files;
 import java.nio.file.Path;
+import java.util.ArrayList;
+import java.util.Arrays;
 import java.util.List;
+import java.util.Set;
+import java.util.TreeSet;
 
-/** Some rules of LANGUAGE.md that can be seen in the source's lines. */
+/** Some rules of LANGUAGE.md that can be seen in the source's lines, or in the classes. */
 final class LanguageTest {
     private static final Path SOURCE = Path.of("src", "main", "java", "OddRulers.java");
     private static final String[] NOT_USED = {
@@ -48,5 +55,51 @@ final class LanguageTest {
                 start = i;
             }
         }
+    }
+
+    static void language_classesAreSmall(Checks c) {
+        c.due(classes().size() + " classes, twelve at most", classes().size() <= 12, true);
+        for (Class<?> type : classes()) {
+            int fields = 0;
+            for (Field field : type.getDeclaredFields()) {
+                fields += Modifier.isStatic(field.getModifiers()) ? 0 : 1;
+            }
+            c.due(type.getName() + " has " + fields + " fields, twenty at most", fields <= 20, true);
+            for (Method method : type.getDeclaredMethods()) {
+                c.due(method + " takes seven at most", method.getParameterCount() <= 7, true);
+            }
+        }
+    }
+
+    static void language_innerMethodsHaveNamesOfTheirOwn(Checks c) {
+        Set<String> face = new TreeSet<>();
+        for (Method method : OddRulers.class.getDeclaredMethods()) {
+            if (Modifier.isPublic(method.getModifiers())) {
+                face.add(method.getName());
+            }
+        }
+        for (Class<?> inner : OddRulers.class.getDeclaredClasses()) {
+            for (Method method : inner.getDeclaredMethods()) {
+                c.due(method + " bears a name of the face", face.contains(method.getName()), false);
+            }
+        }
+    }
+
+    static void language_staticFieldsAreConstants(Checks c) {
+        for (Class<?> type : classes()) {
+            for (Field field : type.getDeclaredFields()) {
+                int modifiers = field.getModifiers();
+                if (Modifier.isStatic(modifiers)) {
+                    c.due(field + " is final", Modifier.isFinal(modifiers), true);
+                    c.due(field + " is a number", field.getType() == int.class || field.getType() == long.class, true);
+                }
+            }
+        }
+    }
+
+    private static List<Class<?>> classes() {
+        List<Class<?>> classes = new ArrayList<>(Arrays.asList(OddRulers.class.getDeclaredClasses()));
+        classes.add(OddRulers.class);
+        return classes;
     }
 }
